@@ -1,7 +1,5 @@
 /** Promises 11 to 14: cells, ranks, same points and what prints. */
 public final class CellTest {
-    private static final Class<?> ARGUMENT = IllegalArgumentException.class;
-    private static final Class<?> INDEX = ArrayIndexOutOfBoundsException.class;
     private static final Due DUE = new Due();
 
     public static void main(String[] args) {
@@ -27,16 +25,16 @@ public final class CellTest {
         SeparateScreens s = new SeparateScreens(1, 1);
         int[][] wrong = {{-1, 0}, {13, 0}, {0, 13}, {0, -13}, {Integer.MIN_VALUE, 1}, {1, Integer.MIN_VALUE}};
         for (int[] w : wrong) {
-            DUE.fails("cell " + w[0] + " " + w[1], ARGUMENT, () -> s.cell(w[0], w[1]));
+            DUE.fails("cell " + w[0] + " " + w[1], Due.ARGUMENT, () -> s.cell(w[0], w[1]));
         }
-        DUE.fails("no size", ArithmeticException.class, () -> s.cell(0, 0));
+        DUE.fails("no size", Due.ARITHMETIC, () -> s.cell(0, 0));
         int[][] right = {{0, 1}, {0, -12}, {12, 12}, {12, -12}, {12, 0}, {1, 1}};
         for (int i = 0; i < right.length; i++) {
             DUE.is("cell", s.cell(right[i][0], right[i][1]), i);
         }
-        DUE.fails("a seventh", UnsupportedOperationException.class, () -> s.cell(1, 0));
-        DUE.fails("a seventh of no size", ArithmeticException.class, () -> s.cell(0, 0));
-        DUE.fails("a wrong seventh", ARGUMENT, () -> s.cell(13, 0));
+        DUE.fails("a seventh", Due.UNSUPPORTED, () -> s.cell(1, 0));
+        DUE.fails("a seventh of no size", Due.ARITHMETIC, () -> s.cell(0, 0));
+        DUE.fails("a wrong seventh", Due.ARGUMENT, () -> s.cell(13, 0));
         DUE.is("a cell of 288", s.rank(2, -1), 288);
         DUE.is("a cell of one", s.rank(0, -1), 1);
         DUE.is("the rank of one", s.rank(0, 0), 0);
@@ -48,11 +46,11 @@ public final class CellTest {
         for (int i = 0; i < due.length; i++) {
             DUE.is("rank of " + i + " of " + a + " " + b, s.rank(0, i), due[i]);
         }
-        DUE.fails("rank behind", INDEX, () -> s.rank(0, due.length));
-        DUE.fails("rank -2", INDEX, () -> s.rank(0, -2));
-        DUE.fails("rank far behind", INDEX, () -> s.rank(0, Integer.MAX_VALUE));
-        DUE.fails("no cell 1", INDEX, () -> s.rank(1, 0));
-        DUE.fails("no cell -1", INDEX, () -> s.rank(-1, -1));
+        DUE.fails("rank behind", Due.INDEX, () -> s.rank(0, due.length));
+        DUE.fails("rank -2", Due.INDEX, () -> s.rank(0, -2));
+        DUE.fails("rank far behind", Due.INDEX, () -> s.rank(0, Integer.MAX_VALUE));
+        DUE.fails("no cell 1", Due.INDEX, () -> s.rank(1, 0));
+        DUE.fails("no cell -1", Due.INDEX, () -> s.rank(-1, -1));
     }
 
     private static void smallCells() {
@@ -89,31 +87,49 @@ public final class CellTest {
         }
     }
 
+    /** A new object for each part: none is asked more than 512 times. */
     private static void wholeCell(int a, int b) {
+        ranksOfCell(a, b, sizesOfCell(a, b));
+        pointsAround(a, b);
+    }
+
+    private static int breadthOf(int a, int b) {
+        return (a * a + b * b) / divisor(a, Math.abs(b));
+    }
+
+    private static int[] sizesOfCell(int a, int b) {
         SeparateScreens s = withCell(a, b);
-        int n = a * a + b * b;
-        int g = divisor(a, Math.abs(b));
-        String what = "cell " + a + " " + b;
-        DUE.is(what, s.rank(0, -1), n);
-        int[] sizes = new int[n];
-        for (int i = 0; i < n; i++) {
-            sizes[i] = leastSize(a, b, i % (n / g), i / (n / g));
-            DUE.is(what + " point " + i, s.same(0, i % (n / g), i / (n / g)), i);
+        int[] sizes = new int[a * a + b * b];
+        int breadth = breadthOf(a, b);
+        for (int i = 0; i < sizes.length; i++) {
+            sizes[i] = leastSize(a, b, i % breadth, i / breadth);
+            DUE.is("cell " + a + " " + b + " point " + i, s.same(0, i % breadth, i / breadth), i);
         }
-        for (int i = 0; i < n; i++) {
+        return sizes;
+    }
+
+    private static void ranksOfCell(int a, int b, int[] sizes) {
+        SeparateScreens s = withCell(a, b);
+        DUE.is("cell " + a + " " + b, s.rank(0, -1), sizes.length);
+        for (int i = 0; i < sizes.length; i++) {
             int before = 0;
-            for (int j = 0; j < n; j++) {
+            for (int j = 0; j < sizes.length; j++) {
                 if (sizes[j] < sizes[i] || sizes[j] == sizes[i] && j < i) {
                     before++;
                 }
             }
-            DUE.is(what + " rank of " + i, s.rank(0, i), before);
+            DUE.is("cell " + a + " " + b + " rank of " + i, s.rank(0, i), before);
         }
+    }
+
+    private static void pointsAround(int a, int b) {
+        SeparateScreens s = withCell(a, b);
+        int breadth = breadthOf(a, b);
         for (int y = -20; y <= 20; y += 3) {
             for (int x = -20; x <= 20; x += 3) {
                 int number = s.same(0, x, y);
-                DUE.is(what + " same as " + x + " " + y, number >= 0 && number < n
-                    && leads(a, b, x - number % (n / g), y - number / (n / g)) ? 1 : 0, 1);
+                DUE.is("cell " + a + " " + b + " same as " + x + " " + y, number >= 0 && number < a * a + b * b
+                    && leads(a, b, x - number % breadth, y - number / breadth) ? 1 : 0, 1);
             }
         }
     }
@@ -150,13 +166,13 @@ public final class CellTest {
 
     private static void wrongPoints() {
         SeparateScreens s = withCell(3, 1);
-        DUE.fails("x too great", ARGUMENT, () -> s.same(0, 1000001, 0));
-        DUE.fails("x too small", ARGUMENT, () -> s.same(0, -1000001, 0));
-        DUE.fails("y too great", ARGUMENT, () -> s.same(0, 0, 1000001));
-        DUE.fails("y too small", ARGUMENT, () -> s.same(0, 0, Integer.MIN_VALUE));
-        DUE.fails("no cell", INDEX, () -> s.same(1, 0, 0));
-        DUE.fails("cell -1", INDEX, () -> s.same(-1, 0, 0));
-        DUE.fails("no cell, and x too great", INDEX, () -> s.same(1, 1000001, 0));
+        DUE.fails("x too great", Due.ARGUMENT, () -> s.same(0, 1000001, 0));
+        DUE.fails("x too small", Due.ARGUMENT, () -> s.same(0, -1000001, 0));
+        DUE.fails("y too great", Due.ARGUMENT, () -> s.same(0, 0, 1000001));
+        DUE.fails("y too small", Due.ARGUMENT, () -> s.same(0, 0, Integer.MIN_VALUE));
+        DUE.fails("no cell", Due.INDEX, () -> s.same(1, 0, 0));
+        DUE.fails("cell -1", Due.INDEX, () -> s.same(-1, 0, 0));
+        DUE.fails("no cell, and x too great", Due.INDEX, () -> s.same(1, 1000001, 0));
     }
 
     private static int printed(SeparateScreens s, int value, int x, int y) {
@@ -192,9 +208,10 @@ public final class CellTest {
         s.colour(0, 128);
         s.paint(0, 0, 15, 11, false);
         int bound = (128 * 25 + 127) / 255;
+        SeparateScreens other = withCell(4, 3);
         for (int y = 0; y < 12; y++) {
             for (int x = 0; x < 16; x++) {
-                int due = s.rank(0, s.same(0, x, y)) < bound ? 1 : 0;
+                int due = other.rank(0, other.same(0, x, y)) < bound ? 1 : 0;
                 DUE.is("prints at " + x + " " + y, s.prints(0, 0, x, y) ? 1 : 0, due);
             }
         }
@@ -205,7 +222,7 @@ public final class CellTest {
         int[][] wrong = {{1, 0, 0, 0}, {-1, 0, 0, 0}, {0, 4, 0, 0}, {0, -1, 0, 0}, {0, 0, 16, 0}, {0, 0, -1, 0},
             {0, 0, 0, 12}, {0, 0, 0, -1}};
         for (int[] w : wrong) {
-            DUE.fails("prints " + w[0] + " " + w[1] + " " + w[2] + " " + w[3], INDEX,
+            DUE.fails("prints " + w[0] + " " + w[1] + " " + w[2] + " " + w[3], Due.INDEX,
                 () -> s.prints(w[0], w[1], w[2], w[3]) ? 1 : 0);
         }
     }

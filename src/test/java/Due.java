@@ -1,7 +1,18 @@
+import java.util.List;
+
 /** Counts answers that are not the ones that are due, and tells of each. */
 final class Due {
+    static final Class<?> ARGUMENT = IllegalArgumentException.class;
+    static final Class<?> INDEX = ArrayIndexOutOfBoundsException.class;
+    static final Class<?> UNSUPPORTED = UnsupportedOperationException.class;
+    static final Class<?> ARITHMETIC = ArithmeticException.class;
+
     interface Call {
         long run();
+    }
+
+    interface Act {
+        void run();
     }
 
     private int wrong = 0;
@@ -11,6 +22,19 @@ final class Due {
         asked++;
         if (got != want) {
             tell(what + " answered " + got + ", due is " + want);
+        }
+    }
+
+    /** Both lists are the same; only the first difference is told. */
+    void alike(String what, List<String> got, List<String> want) {
+        asked++;
+        for (int i = 0; i < Math.max(got.size(), want.size()); i++) {
+            String one = i < got.size() ? got.get(i) : "nothing";
+            String other = i < want.size() ? want.get(i) : "nothing";
+            if (!one.equals(other)) {
+                tell(what + ": " + one + ", due is " + other);
+                return;
+            }
         }
     }
 
@@ -26,6 +50,13 @@ final class Due {
                 tell(what + ": the machine threw " + e);
             }
         }
+    }
+
+    void fails(String what, Class<?> kind, Act act) {
+        fails(what, kind, () -> {
+            act.run();
+            return 0L;
+        });
     }
 
     static boolean isOfTheMachine(String message) {

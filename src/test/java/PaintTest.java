@@ -1,8 +1,5 @@
 /** Promises 1 to 6, 15 and 16: a new page, inks, the colour, painting, the limit and the plates. */
 public final class PaintTest {
-    private static final Class<?> ARGUMENT = IllegalArgumentException.class;
-    private static final Class<?> INDEX = ArrayIndexOutOfBoundsException.class;
-    private static final Class<?> UNSUPPORTED = UnsupportedOperationException.class;
     private static final Due DUE = new Due();
 
     public static void main(String[] args) {
@@ -23,34 +20,21 @@ public final class PaintTest {
         DUE.end();
     }
 
-    /** Sets the colour of inks 0, 1, .. in order. */
-    private static void mix(SeparateScreens s, int... bytes) {
-        for (int ink = 0; ink < bytes.length; ink++) {
-            s.colour(ink, bytes[ink]);
-        }
-    }
-
-    private static void point(String what, SeparateScreens s, int x, int y, int... bytes) {
-        for (int ink = 0; ink < bytes.length; ink++) {
-            DUE.is(what + ", ink " + ink, s.plate(ink, x, y, 0), bytes[ink]);
-        }
-    }
-
     private static void newObject() {
         SeparateScreens s = new SeparateScreens(4, 3);
         for (int y = 0; y < 3; y++) {
             for (int x = 0; x < 4; x++) {
-                point("a new page", s, x, y, 0, 0, 0, 0);
+                Pages.point(DUE, "a new page", s, x, y, 0, 0, 0, 0);
             }
         }
         DUE.is("first limit", s.limit(2040), 2040);
         DUE.is("first width", s.width(1), 1);
-        DUE.fails("no cell at first", INDEX, () -> s.rank(0, -1));
-        DUE.fails("four inks at first", INDEX, () -> s.covered(4));
+        DUE.fails("no cell at first", Due.INDEX, () -> s.rank(0, -1));
+        DUE.fails("four inks at first", Due.INDEX, () -> s.covered(4));
         DUE.is("ink 3 is there", s.covered(3), 0);
         DUE.is("first new ink", s.ink(0, 0, 0, 0), 4);
         DUE.is("first paint", s.paint(0, 0, 3, 2, false), 12);
-        point("the first colour has no ink", s, 1, 1, 0, 0, 0, 0, 0);
+        Pages.point(DUE, "the first colour has no ink", s, 1, 1, 0, 0, 0, 0, 0);
     }
 
     private static void sizesOfPages() {
@@ -62,53 +46,53 @@ public final class PaintTest {
             String what = "page of " + size[0] + " by " + size[1];
             DUE.is(what, s.paint(-100, -100, 100, 100, false), size[2] * size[3]);
             DUE.is(what + " last point", s.plate(0, size[2] - 1, size[3] - 1, 0), 0);
-            DUE.fails(what + " column behind", INDEX, () -> s.plate(0, size[2], 0, 0));
-            DUE.fails(what + " row behind", INDEX, () -> s.plate(0, 0, size[3], 0));
+            DUE.fails(what + " column behind", Due.INDEX, () -> s.plate(0, size[2], 0, 0));
+            DUE.fails(what + " row behind", Due.INDEX, () -> s.plate(0, 0, size[3], 0));
         }
     }
 
     private static void inks() {
         SeparateScreens s = new SeparateScreens(2, 2);
-        DUE.fails("a is no byte", ARGUMENT, () -> s.ink(-1, 0, 0, 0));
-        DUE.fails("b is no byte", ARGUMENT, () -> s.ink(0, 256, 0, 0));
-        DUE.fails("c is no byte", ARGUMENT, () -> s.ink(0, 0, -1, 0));
-        DUE.fails("d is no byte", ARGUMENT, () -> s.ink(0, 0, 0, 256));
+        DUE.fails("a is no byte", Due.ARGUMENT, () -> s.ink(-1, 0, 0, 0));
+        DUE.fails("b is no byte", Due.ARGUMENT, () -> s.ink(0, 256, 0, 0));
+        DUE.fails("c is no byte", Due.ARGUMENT, () -> s.ink(0, 0, -1, 0));
+        DUE.fails("d is no byte", Due.ARGUMENT, () -> s.ink(0, 0, 0, 256));
         for (int number = 4; number < 8; number++) {
             int ink = number;
-            DUE.fails("ink before it is made", INDEX, () -> s.covered(ink));
+            DUE.fails("ink before it is made", Due.INDEX, () -> s.covered(ink));
             DUE.is("ink", s.ink(0, 255, number, 1), number);
             DUE.is("a new ink is nowhere", s.covered(number), 0);
         }
-        DUE.fails("a ninth ink", UNSUPPORTED, () -> s.ink(0, 0, 0, 0));
-        DUE.fails("a ninth ink of no bytes", ARGUMENT, () -> s.ink(0, 0, 0, 256));
-        DUE.fails("no ink 8", INDEX, () -> s.covered(8));
+        DUE.fails("a ninth ink", Due.UNSUPPORTED, () -> s.ink(0, 0, 0, 0));
+        DUE.fails("a ninth ink of no bytes", Due.ARGUMENT, () -> s.ink(0, 0, 0, 256));
+        DUE.fails("no ink 8", Due.INDEX, () -> s.covered(8));
     }
 
     private static void colours() {
         SeparateScreens s = new SeparateScreens(1, 1);
-        mix(s, 0, 255, 7, 8);
-        DUE.fails("256", ARGUMENT, () -> { s.colour(0, 256); return 0; });
-        DUE.fails("-2", ARGUMENT, () -> { s.colour(0, -2); return 0; });
-        DUE.fails("-2 of no ink", ARGUMENT, () -> { s.colour(4, -2); return 0; });
-        DUE.fails("ink 4", INDEX, () -> { s.colour(4, 0); return 0; });
-        DUE.fails("ink -1", INDEX, () -> { s.colour(-1, -1); return 0; });
+        Pages.mix(s, 0, 255, 7, 8);
+        DUE.fails("256", Due.ARGUMENT, () -> s.colour(0, 256));
+        DUE.fails("-2", Due.ARGUMENT, () -> s.colour(0, -2));
+        DUE.fails("-2 of no ink", Due.ARGUMENT, () -> s.colour(4, -2));
+        DUE.fails("ink 4", Due.INDEX, () -> s.colour(4, 0));
+        DUE.fails("ink -1", Due.INDEX, () -> s.colour(-1, -1));
         s.paint(0, 0, 0, 0, false);
-        point("colour", s, 0, 0, 0, 255, 7, 8);
+        Pages.point(DUE, "colour", s, 0, 0, 0, 255, 7, 8);
         s.colour(1, -1);
         s.paint(0, 0, 0, 0, false);
-        point("colour without ink 1", s, 0, 0, 0, 0, 7, 8);
+        Pages.point(DUE, "colour without ink 1", s, 0, 0, 0, 0, 7, 8);
     }
 
     private static void overAndKnockOut() {
         SeparateScreens s = new SeparateScreens(2, 1);
         s.ink(1, 2, 3, 4);
-        mix(s, 10, 20, 30, 40, 50);
+        Pages.mix(s, 10, 20, 30, 40, 50);
         s.paint(0, 0, 1, 0, false);
-        mix(s, -1, 99, 0, -1, -1);
+        Pages.mix(s, -1, 99, 0, -1, -1);
         s.paint(0, 0, 0, 0, true);
-        point("over", s, 0, 0, 10, 99, 0, 40, 50);
+        Pages.point(DUE, "over", s, 0, 0, 10, 99, 0, 40, 50);
         s.paint(1, 0, 1, 0, false);
-        point("knocked out", s, 1, 0, 0, 99, 0, 0, 0);
+        Pages.point(DUE, "knocked out", s, 1, 0, 0, 99, 0, 0, 0);
     }
 
     private static void pointsPainted() {
@@ -132,8 +116,8 @@ public final class PaintTest {
     private static void limits() {
         SeparateScreens s = new SeparateScreens(1, 1);
         DUE.is("limit", s.limit(0), 2040);
-        DUE.fails("below", ARGUMENT, () -> s.limit(-1));
-        DUE.fails("above", ARGUMENT, () -> s.limit(2041));
+        DUE.fails("below", Due.ARGUMENT, () -> s.limit(-1));
+        DUE.fails("above", Due.ARGUMENT, () -> s.limit(2041));
         DUE.is("limit after faults", s.limit(2040), 0);
         DUE.is("limit back", s.limit(5), 2040);
     }
@@ -144,9 +128,9 @@ public final class PaintTest {
             s.ink(0, 0, 0, 0);
         }
         s.limit(limit);
-        mix(s, colour);
+        Pages.mix(s, colour);
         s.paint(0, 0, 0, 0, false);
-        point(what, s, 0, 0, due);
+        Pages.point(DUE, what, s, 0, 0, due);
     }
 
     private static void limitByBlack() {
@@ -172,21 +156,21 @@ public final class PaintTest {
 
     private static void limitOfWhatIsThere() {
         SeparateScreens s = new SeparateScreens(2, 1);
-        mix(s, 100, 50, 0, 0);
+        Pages.mix(s, 100, 50, 0, 0);
         s.paint(0, 0, 1, 0, false);
-        mix(s, -1, -1, -1, -1);
+        Pages.mix(s, -1, -1, -1, -1);
         s.limit(100);
-        point("a limit changes nothing by itself", s, 0, 0, 100, 50, 0, 0);
+        Pages.point(DUE, "a limit changes nothing by itself", s, 0, 0, 100, 50, 0, 0);
         DUE.is("over with no ink", s.paint(0, 0, 0, 0, true), 1);
-        point("over with no ink is limited", s, 0, 0, 66, 33, 0, 0);
-        point("beside it is not", s, 1, 0, 100, 50, 0, 0);
+        Pages.point(DUE, "over with no ink is limited", s, 0, 0, 66, 33, 0, 0);
+        Pages.point(DUE, "beside it is not", s, 1, 0, 100, 50, 0, 0);
     }
 
     private static void plates() {
         SeparateScreens s = new SeparateScreens(2, 1);
-        mix(s, -1, -1, 200, -1);
+        Pages.mix(s, -1, -1, 200, -1);
         s.paint(0, 0, 0, 0, false);
-        mix(s, -1, -1, -1, 100);
+        Pages.mix(s, -1, -1, -1, 100);
         s.paint(1, 0, 1, 0, false);
         s.gain(100, 150);
         DUE.is("way 0", s.plate(2, 1, 0, 0), 0);
@@ -195,24 +179,24 @@ public final class PaintTest {
         DUE.is("way 2 without the trap", s.plate(2, 1, 0, 2), 0);
         DUE.is("way 3", s.plate(2, 1, 0, 3), 150 + 105 * 100 / 155);
         DUE.is("traps do not change plates", s.covered(2), 200);
-        DUE.fails("way -1", ARGUMENT, () -> s.plate(0, 0, 0, -1));
-        DUE.fails("way 4", ARGUMENT, () -> s.plate(0, 0, 0, 4));
-        DUE.fails("way 4 of nothing", ARGUMENT, () -> s.plate(9, -1, 0, 4));
-        DUE.fails("no ink", INDEX, () -> s.plate(4, 0, 0, 1));
-        DUE.fails("ink -1", INDEX, () -> s.plate(-1, 0, 0, 0));
-        DUE.fails("column -1", INDEX, () -> s.plate(0, -1, 0, 0));
-        DUE.fails("row -1", INDEX, () -> s.plate(0, 0, -1, 3));
+        DUE.fails("way -1", Due.ARGUMENT, () -> s.plate(0, 0, 0, -1));
+        DUE.fails("way 4", Due.ARGUMENT, () -> s.plate(0, 0, 0, 4));
+        DUE.fails("way 4 of nothing", Due.ARGUMENT, () -> s.plate(9, -1, 0, 4));
+        DUE.fails("no ink", Due.INDEX, () -> s.plate(4, 0, 0, 1));
+        DUE.fails("ink -1", Due.INDEX, () -> s.plate(-1, 0, 0, 0));
+        DUE.fails("column -1", Due.INDEX, () -> s.plate(0, -1, 0, 0));
+        DUE.fails("row -1", Due.INDEX, () -> s.plate(0, 0, -1, 3));
     }
 
     private static void covered() {
         SeparateScreens s = new SeparateScreens(16, 12);
-        mix(s, 255, 1, -1, -1);
+        Pages.mix(s, 255, 1, -1, -1);
         s.paint(0, 0, 15, 11, false);
         DUE.is("all of it", s.covered(0), 255 * 192);
         DUE.is("one each", s.covered(1), 192);
         DUE.is("none", s.covered(2), 0);
-        DUE.fails("ink -1", INDEX, () -> s.covered(-1));
-        DUE.fails("ink 4", INDEX, () -> s.covered(4));
+        DUE.fails("ink -1", Due.INDEX, () -> s.covered(-1));
+        DUE.fails("ink 4", Due.INDEX, () -> s.covered(4));
     }
 
     private static void packed() {
@@ -228,10 +212,10 @@ public final class PaintTest {
         }
         DUE.is("another ink", s.packed(1, -1), 4);
         for (int i : new int[] {8, 9, 1000, -2, -3, Integer.MAX_VALUE, Integer.MIN_VALUE}) {
-            DUE.fails("packed byte " + i, INDEX, () -> s.packed(0, i));
+            DUE.fails("packed byte " + i, Due.INDEX, () -> s.packed(0, i));
         }
-        DUE.fails("ink 4", INDEX, () -> s.packed(4, -1));
-        DUE.fails("ink -1", INDEX, () -> s.packed(-1, 0));
+        DUE.fails("ink 4", Due.INDEX, () -> s.packed(4, -1));
+        DUE.fails("ink -1", Due.INDEX, () -> s.packed(-1, 0));
         s.gain(0, 99);
         DUE.is("packed without the curve", s.packed(0, 5), 0);
     }
@@ -245,6 +229,6 @@ public final class PaintTest {
         DUE.is("the most bytes", s.packed(0, -1), 384);
         DUE.is("the last run", s.packed(0, 382), 1);
         DUE.is("the last byte", s.packed(0, 383), 255);
-        DUE.fails("one behind", INDEX, () -> s.packed(0, 384));
+        DUE.fails("one behind", Due.INDEX, () -> s.packed(0, 384));
     }
 }
