@@ -11,6 +11,7 @@ public final class LimitEdgeTest {
         untilBlackIsFull();
         blackGetsWhatOthersLose();
         aboveTheLimitStill();
+        everyPoint();
         quotientsDownward();
         notBelow0();
         blackAboveTheLimit();
@@ -103,10 +104,27 @@ public final class LimitEdgeTest {
         limited("from none to full", 255, bytes(255, 255, 255, 0), 0, 0, 0, 255);
     }
 
-    /** "If the sum is above the limit still": 49 0 49 1 is 99. */
+    /** "If the sum is above the limit still": 49 0 49 1 is 99. What is below it then does not grow. */
     private static void aboveTheLimitStill() {
         limited("just the limit", 99, bytes(50, 1, 50, 0), 49, 0, 49, 1);
         limited("one above it", 98, bytes(50, 1, 50, 0), 48, 0, 48, 1);
+        limited("one below it", 101, bytes(100, 1, 1, 0), 99, 0, 0, 1);
+    }
+
+    /** The same at every point of a page, its last one too. */
+    private static void everyPoint() {
+        SeparateScreens s = new SeparateScreens(16, 12);
+        s.limit(100);
+        Pages.mix(s, 30, 0, 20, 101);
+        DUE.is("all points", s.paint(0, 0, 15, 11, false), 192);
+        for (int[] p : new int[][] {{0, 0}, {1, 0}, {15, 0}, {0, 11}, {7, 5}, {15, 11}}) {
+            Pages.point(DUE, "black too much at " + p[0] + " " + p[1], s, p[0], p[1], 0, 0, 0, 100);
+        }
+        Pages.mix(s, 50, 10, 50, 20);
+        s.paint(0, 0, 15, 11, false);
+        for (int[] p : new int[][] {{0, 0}, {1, 0}, {15, 0}, {0, 11}, {7, 5}, {15, 11}}) {
+            Pages.point(DUE, "all too much at " + p[0] + " " + p[1], s, p[0], p[1], 35, 0, 35, 30);
+        }
     }
 
     /** "All quotients are downward": 100 and 51 by 150 / 151 are 99.3 and 50.6. */

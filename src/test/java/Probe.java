@@ -123,12 +123,22 @@ final class Probe {
         }
     }
 
+    /** Inks that were not there when the probe began are not in the colour. */
+    private void showColourOfNewInks() {
+        ask("paint with new inks", () -> s.paint(0, 0, COLUMNS, ROWS, false));
+        for (int i = inks; i < MOST_INKS; i++) {
+            int ink = i;
+            ask("covered by new ink " + ink, () -> s.covered(ink));
+        }
+    }
+
     /** How many more there may be of each kind tells how many there are. */
     private void fillUp() {
         boolean more = true;
         for (int i = 0; more && i < MOST_INKS; i++) {
             more = ask("one more ink", () -> s.ink(1, 2, 3, 4));
         }
+        showColourOfNewInks();
         more = true;
         for (int i = 0; more && i < MOST_CELLS + 1; i++) {
             more = ask("one more cell", () -> s.cell(1, 2));

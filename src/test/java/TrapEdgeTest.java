@@ -12,6 +12,7 @@ public final class TrapEdgeTest {
         lighterOnly();
         lightnessDownward();
         lightnessOfEachBand();
+        lightnessOfGreys();
         lightnessWithoutTraps();
         lightnessWithoutTheCurve();
         itselfLendsNothing();
@@ -26,6 +27,7 @@ public final class TrapEdgeTest {
         noWrapAround();
         onePoint();
         greaterOfBoth();
+        firstPointLends();
         platesStay();
         whatItWas();
         bounds();
@@ -146,6 +148,25 @@ public final class TrapEdgeTest {
                 DUE.is("ink " + byLight[j] + " by ink " + byLight[i], s.lender(0, 0), j > i ? 1 : -1);
             }
         }
+    }
+
+    /** Black of v is 255 - v light in every band: 226 is yellow's, so 29 of black is as light as yellow. */
+    private static void lightnessOfGreys() {
+        greyBy("yellow", Pages.YELLOW, 226);
+        greyBy("cyan", Pages.CYAN, 178);
+        greyBy("magenta", Pages.MAGENTA, 104);
+    }
+
+    private static void greyBy(String what, int ink, int light) {
+        SeparateScreens s = row(2);
+        Pages.dot(s, 0, 0, Pages.BLACK, 255 - light);
+        Pages.dot(s, 1, 0, ink, 255);
+        DUE.is("a grey as light as " + what, s.lender(0, 0), -1);
+        DUE.is(what + " as light as a grey", s.lender(1, 0), -1);
+        Pages.dot(s, 0, 0, Pages.BLACK, 255 - light + 1);
+        DUE.is("a grey that is darker than " + what, s.lender(0, 0), 1);
+        Pages.dot(s, 0, 0, Pages.BLACK, 255 - light - 1);
+        DUE.is(what + " by a grey that is lighter", s.lender(1, 0), 0);
     }
 
     /** Lightness is of a point's own inks: what its trap has more does not make it darker. */
@@ -344,6 +365,16 @@ public final class TrapEdgeTest {
         for (int ink = 0; ink < 8; ink++) {
             DUE.is("the greater of ink " + ink, s.plate(ink, 0, 0, 1), due[ink]);
         }
+    }
+
+    /** Point 0 is a point as any other: -1, not 0, is none. */
+    private static void firstPointLends() {
+        SeparateScreens s = row(2);
+        Pages.dot(s, 1, 0, Pages.BLACK, 200);
+        Pages.dot(s, 0, 0, Pages.YELLOW, 100);
+        DUE.is("lender", s.lender(1, 0), 0);
+        DUE.is("the trap", s.plate(Pages.YELLOW, 1, 0, 1), 100);
+        DUE.is("the trap, seen", s.seen(1, 0, 2, true), 33);
     }
 
     /** "Traps are told, and do not change plates". */
