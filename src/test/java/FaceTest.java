@@ -15,6 +15,7 @@ import java.util.regex.Pattern;
 /** The face is the document's and no more, and the source keeps to what LANGUAGE.md lets a text show. */
 public final class FaceTest {
     private static final String SOURCE = "src/main/java/SeparateScreens.java";
+    private static final String DOCUMENT = "../shared/DOC.md";
     private static final String[] FACE = {
         "int cell(int,int) IllegalArgumentException ArithmeticException UnsupportedOperationException",
         "int ink(int,int,int,int) IllegalArgumentException UnsupportedOperationException",
@@ -33,10 +34,13 @@ public final class FaceTest {
         "void gain(int,int) IllegalArgumentException UnsupportedOperationException"};
     private static final String[] BANNED = {"import", "catch", "try", "finally", "synchronized", "assert", "->", "::",
         "native", "protected", "Math.addExact", "equals", "hashCode", "toString", "double", "float"};
+    private static final String[] THROWN = {"IllegalArgumentException", "UnsupportedOperationException",
+        "ArrayIndexOutOfBoundsException", "ArithmeticException"};
     private static final Due DUE = new Due();
 
     public static void main(String[] args) throws IOException {
         methods();
+        linesOfTheDocument();
         membersThatAreNotOfTheFace();
         source();
         DUE.end();
@@ -72,6 +76,22 @@ public final class FaceTest {
         }
     }
 
+    /** Names of parameters, and the order of exceptions, are as the document's face has them. */
+    private static void linesOfTheDocument() throws IOException {
+        List<String> lines = Files.readString(Path.of(SOURCE)).lines().map(String::strip).toList();
+        Matcher face = Pattern.compile("(?s)```java\n(.*?)```").matcher(Files.readString(Path.of(DOCUMENT)));
+        DUE.is("the document has a face", face.find() ? 1 : 0, 1);
+        int heads = 0;
+        for (String line : face.group(1).split("\n")) {
+            String head = line.strip();
+            if (head.startsWith("public")) {
+                heads++;
+                DUE.is("the class has: " + head, lines.contains(head.replaceAll(";$", " {")) ? 1 : 0, 1);
+            }
+        }
+        DUE.is("the class's head, its constructor and its methods", heads, 2 + FACE.length);
+    }
+
     private static void membersThatAreNotOfTheFace() {
         DUE.is("final", Modifier.isFinal(SeparateScreens.class.getModifiers()) ? 1 : 0, 1);
         for (Field f : SeparateScreens.class.getDeclaredFields()) {
@@ -94,11 +114,11 @@ public final class FaceTest {
             Pattern pattern = Pattern.compile(letters ? "\\b" + Pattern.quote(word) + "\\b" : Pattern.quote(word));
             DUE.is("banned: " + word, pattern.matcher(text).find() ? 1 : 0, 0);
         }
-        Matcher thrown = Pattern.compile("throw new (\\w+)\\(\"\"\\);").matcher(text);
+        Matcher thrown = Pattern.compile("throw new (" + String.join("|", THROWN) + ")\\(\"\"\\);").matcher(text);
         int proper = 0;
         while (thrown.find()) {
             proper++;
         }
-        DUE.is("every throw is of a new exception with a written text", text.split("\\bthrow\\b", -1).length - 1, proper);
+        DUE.is("every throw is of a new exception that the document names, with a written text", text.split("\\bthrow\\b", -1).length - 1, proper);
     }
 }
